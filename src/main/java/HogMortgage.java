@@ -966,12 +966,12 @@ public final class HogMortgage {
         }
 
         private boolean tellHouses() {
-            for (int k = 0; k < MAX_HOUSES; k++) {
+            for (int k = 1; k <= MAX_HOUSES; k++) {
                 if (!tellHouse()) {
                     return false;
                 }
-                if (k == MAX_HOUSES - 1 || !takes(',')) {
-                    return true;
+                if (k == MAX_HOUSES || !takes(',')) {
+                    break;
                 }
             }
             return true;
@@ -998,12 +998,12 @@ public final class HogMortgage {
         }
 
         private boolean tellHogs() {
-            for (int k = 0; k < MAX_HOGS; k++) {
+            for (int k = 1; k <= MAX_HOGS; k++) {
                 if (!tellHog()) {
                     return false;
                 }
-                if (k == MAX_HOGS - 1 || !takes(',')) {
-                    return true;
+                if (k == MAX_HOGS || !takes(',')) {
+                    break;
                 }
             }
             return true;

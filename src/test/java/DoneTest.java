@@ -226,6 +226,12 @@ public final class DoneTest {
         check.due("the draw undone", x.seed(0), 1103527590);
         check.due("drift by 0", x.drift(1), 0);
         check.due("12345 is for house 0, 12", x.of(0, 1), 12);
+        HogMortgage u = check.lane("0;9.1,9.2");
+        u.seed(12345);
+        u.drift(1);
+        // The draw is 1406932606: 21468 times 65536 and more, 10991660 times 128 and more.
+        check.due("by 65536, left over by 2", u.of(1, 1), 2);
+        check.due("by 128, left over by 21", u.of(0, 1), 8);
         HogMortgage y = new HogMortgage();
         check.due("drift of none", y.drift(2), 0);
         check.due("the draw of none", y.seed(1), 377401575);

@@ -148,6 +148,9 @@ public final class ForetoldTest {
         partDue(x, 12, 1, new int[] {993, 2, 3, 9, HogMortgage.NONE});
         partDue(x, 0, 1, new int[] {1000, 0, 0, 0, HogMortgage.NONE});
         partDue(x, 3, 1, new int[] {997, 1, 3, 0, HogMortgage.NONE});
+        partDue(check.lane("0;50.0,50.0;p3,p4@1"), 7, 1, new int[] {993, 2, 3, 4, HogMortgage.NONE});
+        partDue(check.lane("0;50.0!!;p3"), 3, 1, new int[] {497, 1, 3, HogMortgage.NONE});
+        partDue(check.lane("0;50.0!!;p3"), 2, 1, new int[] {498, 0, 2, HogMortgage.NONE});
         HogMortgage y = check.lane("0;50.0!!!,50.0;p3@1");
         partDue(y, 3, 1, new int[] {997, 1, 0, 3, HogMortgage.NONE});
         partDue(y, 12, 30, new int[] {500 + 500 - 25 * 3, 1, 0, 12, HogMortgage.NONE});
@@ -195,6 +198,10 @@ public final class ForetoldTest {
         check.due("no looks for house 1", y.drives(1, 1, 1), 0);
         HogMortgage z = check.lane("0;50.5,50.0,50.0;p5@1");
         check.due("where it pays", z.drives(0, 1, 0), 0);
+        HogMortgage late = check.lane("0;50.9,50.9,50.9;p5@1");
+        check.due("where it pays, though it is not the first", late.drives(2, 1, 0), 2);
+        HogMortgage looks = check.lane("0;50.9,50.9,50.3;p5@1");
+        check.due("no look is better than a little paid", looks.drives(2, 1, 0), 0);
         HogMortgage lost = check.lane("0;50.0,50.0!!!;p5");
         check.due("to a lost house", lost.drives(0, 1, 0), 1);
         check.due("no look in the first night", lost.drives(0, 1, 1), 0);
@@ -312,7 +319,10 @@ public final class ForetoldTest {
         Check.typed(x, "1;1.1");
         check.due("restore() behind a new lane", x.restore(), 1);
         check.same("all is as it was, again", Check.all(x), was);
-        check.due("undone from the image", x.undo(), 3);
+        for (int k = 3; k >= 0; k--) {
+            check.due("undone from the image", x.undo(), k);
+        }
+        check.same("all undone", Check.all(x), Check.all(check.lane(BUSY)));
         check.due("another image", x.image(), 1);
         was = Check.all(x);
         x.house(1, 1);

@@ -106,6 +106,8 @@ public final class SheetsTest {
         y.sheet(0, BYTES, 24);
         y.sheet(1, SHORTS, 24);
         y.pay(0, 1);
+        y.sheet(3, LONGS, 1);
+        check.due("film to the last sheet", y.film(0, 1, 3, LONGS, 0), 1);
         check.due("film of 259 to bytes", y.film(0, 24, 0, BYTES, 0), 24);
         check.due("film of 259 to shorts", y.film(0, 24, 1, SHORTS, 0), 24);
         check.due("its lowest bits are 3", y.dawns(0, 1, 0, BYTES, 23, 1, 0), 7);
