@@ -172,6 +172,13 @@ public final class EdgesDoneTest {
                 "seed(31) = 12345", "drift(1) = 0", "of(0, 1) = 1", "of(1, 1) = 3");
     }
 
+    /** Draws just above a multiple of 65536 and just below one, then of 128. */
+    private static void promise15WhatIsDividedIsCut() {
+        Story.due("tell [0;9.1,9.1] = 2", "seed(427) = 1", "drift(1) = 0", "of(0, 1) = 1", "of(1, 1) = 17", "seed(3466) = 902103048",
+                "drift(1) = 0", "of(0, 1) = 1", "of(1, 1) = 4", "tell [0;9.1] = 1", "seed(286) = 115474427", "drift(1) = 0", "of(0, 1) = 20",
+                "seed(387) = 2072759807", "drift(1) = 0", "of(0, 1) = 0", "seed(1) = 1858649856");
+    }
+
     private static void promise15OfNoneIfThereAreNone() {
         Story.due("drift(1) = 0", "seed(1103527590) = 1103527590", "count(2) = 1", "drift(1) = 0", "seed(0) = 377401575",
                 "count(8) = 2", "undo() = 1", "seed(0) = 1103527590");

@@ -228,6 +228,16 @@ public final class EdgesForetoldTest {
                 "tell [0;0.0,0.0,0.0] = 3", "part(4, 1, 0) = 0", "part(4, 1, 1) = 0", "part(4, 1, 2) = 4");
     }
 
+    private static void promise24FromTheFirstWayToTheLast() {
+        Story.due("tell [0;50.0,50.0,50.0!!;f6@2] = 3", "part(12, 1, 0) = 0", "part(12, 1, 1) = 0", "part(12, 1, 2) = 12", "part(12, 1, -1) = 3",
+                "part(12, 1, -2) = 1488", "tell [0;50.0!!,50.0,50.0;f6] = 3", "part(12, 1, 0) = 12", "part(12, 1, 1) = 0", "part(12, 1, 2) = 0",
+                "part(12, 1, -1) = 3", "part(12, 1, -2) = 1488", "tell [0;50.0!!,50.0,50.0!!;p3,p4@2] = 3", "part(7, 1, 0) = 3",
+                "part(7, 1, 1) = 0", "part(7, 1, 2) = 4", "part(7, 1, -1) = 3", "part(7, 1, -2) = 1493");
+        Story.due("tell [0;50.0,50.0!!,50.0,50.0!!,50.0,50.0!!;p3@1,p4@3,p5@5] = 6", "part(12, 1, 0) = 0", "part(12, 1, 1) = 3",
+                "part(12, 1, 2) = 0", "part(12, 1, 3) = 4", "part(12, 1, 4) = 0", "part(12, 1, 5) = 5", "part(12, 1, -1) = 6",
+                "part(12, 1, -2) = 2988", "part(11, 1, -1) = 5", "part(11, 1, 1) = 2", "part(11, 1, 3) = 4", "part(11, 1, 5) = 5");
+    }
+
     private static void promise24LostOnesOweToo() {
         Story.due("tell [0;50.0!!!,50.0] = 2", "part(0, 1, -1) = 1", "part(0, 1, -2) = 1000", "tell [0;50.0!!!,40.0!!!] = 2",
                 "part(5, 1, -1) = 0", "part(5, 1, -2) = 900", "part(5, 1, 0) = 0", "part(5, 1, 1) = 5");
