@@ -2,23 +2,57 @@ import java.lang.reflect.Constructor;
 import java.lang.reflect.Field;
 import java.lang.reflect.Method;
 import java.lang.reflect.Modifier;
+import java.nio.file.Files;
+import java.nio.file.Path;
 import java.util.Arrays;
 import java.util.Set;
 import java.util.TreeSet;
 
-/** The public face is the document's and no more (rule 1 of LANGUAGE.md), and calls make no objects (rule 12). */
+/**
+ * The public face is the document's and no more (rule 1 of LANGUAGE.md), the class uses no library but System.arraycopy and
+ * Integer.bitCount and throws and catches nothing (rules 4, 6), its methods are short (rule 11), and calls make no objects
+ * (rule 12).
+ */
 public final class FaceTest {
     private static final Check check = new Check();
     private static final String METHODS = "house2 hog3 interest1 of2 at2 type1 read0 count1 nights1 put2 pay2 drive2 "
             + "forgive1 drift1 undo0 seed1 ahead3 where2 then2 lost1 free1 keep2 part3 drives3 visits2 solvent2 sleep3 "
             + "image0 restore0 dawns7 film5 sheet3 drop1 item4 copy5";
 
-    public static void main(String[] args) {
+    public static void main(String[] args) throws java.io.IOException {
+        source();
         constants();
         members();
         classesInside();
         room();
         check.end();
+    }
+
+    private static void source() throws java.io.IOException {
+        String text = Files.readString(Path.of("src/main/java/HogMortgage.java")).replaceAll("(?s)/\\*.*?\\*/|//[^\n]*", "");
+        for (String word : "package import throw throws try catch finally synchronized assert instanceof native volatile".split(" ")) {
+            check.due("the word " + word, text.matches("(?s).*\\b" + word + "\\b.*") ? 1 : 0, 0);
+        }
+        for (String sign : new String[] {"->", "::", "\""}) {
+            check.due("the sign " + sign, text.contains(sign) ? 1 : 0, 0);
+        }
+        String library = text.replace("System.arraycopy(", "").replace("Integer.bitCount(", "");
+        check.due("another library", library.matches("(?s).*\\b(System|Math|Integer|Long|Arrays|List|String|Object)\\b.*") ? 1 : 0, 0);
+        check.due("more than seven parameters", text.matches("(?s).*\\((int \\w+, ){7}.*") ? 1 : 0, 0);
+        check.due("the longest method has some sixty lines at most", longestMethod(text) <= 60 ? 1 : 0, 1);
+    }
+
+    private static int longestMethod(String text) {
+        int longest = 0;
+        int lines = 0;
+        for (String line : text.split("\n")) {
+            boolean begins = line.matches(" {4}( {4})?[^ ].*[)] [{]") && !line.trim().matches("(if|for|while|switch) .*");
+            lines = begins ? 1 : lines + 1;
+            if (line.equals("    }") || line.equals("        }")) {
+                longest = Math.max(longest, lines);
+            }
+        }
+        return longest;
     }
 
     private static void constants() {

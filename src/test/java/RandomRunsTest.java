@@ -3,8 +3,17 @@ import java.util.LinkedHashMap;
 import java.util.Map;
 import java.util.Random;
 
-/** Runs of up to 512 calls, drawn by fixed seeds: every answer of HogMortgage must be the one of Model. */
+/**
+ * Runs of 512 calls, drawn by fixed seeds: every answer of HogMortgage must be the one of Model. Each run has its own liking:
+ * which calls it draws more often, how often a number is odd; some begin shortly ahead of night 9999, or with sheets that are
+ * mostly alike, or with a tape that is nearly full.
+ */
 public final class RandomRunsTest {
+    private static final int MOST_CALLS = 512;
+    private static final int[] LIKINGS = {0, 1, 1, 2, 5};
+    private static final int[] ODD = {Integer.MIN_VALUE, Integer.MIN_VALUE + 1, -21, -1, 0, 1, 24, 255, Integer.MAX_VALUE - 23,
+        Integer.MAX_VALUE - 1, Integer.MAX_VALUE};
+
     /** Each call, how often it is drawn, and what its numbers are: low and high of each one. */
     private static final String[] CALLS = {
         "house 3 0:9999 0:20", "hog 4 0:4 1:9 H", "interest 2 0:20", "of 6 H 0:4", "at 5 G 0:3", "count 6 0:8",
@@ -25,10 +34,17 @@ public final class RandomRunsTest {
     private boolean wrong = false;
     private final StringBuilder story = new StringBuilder();
     private final int[] lanes = new int[4];
+    private final int[] weights = new int[CALLS.length];
+    private final int oddOf;
 
     private RandomRunsTest(int run) {
         this.run = run;
         this.random = new Random(run);
+        for (int k = 0; k < CALLS.length; k++) {
+            int liked = run % 2 == 0 ? 1 : LIKINGS[random.nextInt(LIKINGS.length)];
+            weights[k] = liked * Integer.parseInt(CALLS[k].split(" ")[1]);
+        }
+        oddOf = random.nextInt(8) == 0 ? 12 : 100;
     }
 
     public static void main(String[] args) throws ReflectiveOperationException {
@@ -56,24 +72,65 @@ public final class RandomRunsTest {
         if (random.nextInt(4) > 0) {
             tell(random.nextInt(5) == 0);
         }
-        int weights = 0;
-        for (String c : CALLS) {
-            weights += Integer.parseInt(c.split(" ")[1]);
+        if (run % 8 == 0) {
+            growLate();
         }
-        while (calls < 400 && !wrong) {
+        if (run % 8 < 4) {
+            fillSheets();
+        }
+        if (run % 8 == 7) {
+            fillTape();
+        }
+        while (goesOn()) {
             if (random.nextInt(60) == 0) {
                 tell(random.nextInt(2) == 0);
-                continue;
-            }
-            int w = random.nextInt(weights);
-            for (String c : CALLS) {
-                w -= Integer.parseInt(c.split(" ")[1]);
-                if (w < 0) {
-                    drawn(c.split(" "));
-                    break;
-                }
+            } else {
+                drawn(CALLS[likedCall()].split(" "));
             }
         }
+    }
+
+    private boolean goesOn() {
+        return calls < MOST_CALLS && !wrong;
+    }
+
+    private void growLate() throws ReflectiveOperationException {
+        for (int k = 0; k < 245 + random.nextInt(5) && goesOn(); k++) {
+            call(random.nextInt(9) == 0 ? "drift" : "nights", 40);
+        }
+        call("image");
+    }
+
+    private void fillSheets() throws ReflectiveOperationException {
+        int lane = random.nextInt(4);
+        for (int k = 0; k < 4; k++) {
+            lanes[k] = random.nextInt(4) == 0 ? random.nextInt(4) : lane;
+            call("sheet", k, lanes[k], 18 + random.nextInt(7));
+            for (int i = 0; i < 6; i++) {
+                call("item", k, lanes[k], i, (long) random.nextInt(12));
+            }
+        }
+    }
+
+    private void fillTape() throws ReflectiveOperationException {
+        for (int k = 0; k < 74 + random.nextInt(10); k++) {
+            call("type", (int) ' ');
+        }
+    }
+
+    private int likedCall() {
+        int all = 1;
+        for (int weight : weights) {
+            all += weight;
+        }
+        int drawn = random.nextInt(all);
+        for (int k = 0; k < weights.length; k++) {
+            drawn -= weights[k];
+            if (drawn < 0) {
+                return k;
+            }
+        }
+        return 0;
     }
 
     private void drawn(String[] spec) throws ReflectiveOperationException {
@@ -95,7 +152,7 @@ public final class RandomRunsTest {
             numbers[0] = 1 + random.nextInt(4);
         }
         // The model tries every parting by new objects: mostly few of them.
-        if (name.equals("part") && real.count(0) > 3 && random.nextInt(20) > 0) {
+        if (name.equals("part") && model.count(0) > 3 && random.nextInt(20) > 0) {
             numbers[0] = random.nextInt(6) - 1;
         }
         if (name.equals("sheet") && random.nextInt(2) == 0) {
@@ -127,14 +184,14 @@ public final class RandomRunsTest {
 
     private long number(String range) {
         int low = 0;
-        int high = Math.max(0, real.count(range.equals("H") ? 0 : 1) - 1);
+        int high = Math.max(0, model.count(range.equals("H") ? 0 : 1) - 1);
         if (range.contains(":")) {
             low = Integer.parseInt(range.substring(0, range.indexOf(':')));
             high = Integer.parseInt(range.substring(range.indexOf(':') + 1));
         }
-        int odd = random.nextInt(100);
+        int odd = random.nextInt(oddOf);
         if (odd == 0) {
-            return random.nextInt();
+            return random.nextBoolean() ? random.nextInt() : ODD[random.nextInt(ODD.length)];
         }
         if (odd < 3) {
             return random.nextBoolean() ? low - 1 : high + 1;
@@ -146,6 +203,9 @@ public final class RandomRunsTest {
     }
 
     private void call(String name, Object... numbers) throws ReflectiveOperationException {
+        if (!goesOn()) {
+            return;
+        }
         calls++;
         Method[] m = METHODS.get(name);
         int got = (Integer) m[0].invoke(real, numbers);

@@ -63,11 +63,11 @@ final class Story {
     private Story() {
     }
 
-    /** Runs every test of a class, each named promise and its number and what it shows; each promise must have one. */
+    /** Runs every test of a class, each named promise, its number and what it shows, or run; each promise must have one. */
     static void runAll(Class<?> tests, int... promises) throws IllegalAccessException {
         Map<String, Method> named = new TreeMap<>();
         for (Method m : tests.getDeclaredMethods()) {
-            if (m.getName().matches("promise[0-9]+[A-Z].*")) {
+            if (m.getName().matches("(promise[0-9]+|run)[A-Z].*")) {
                 m.setAccessible(true);
                 named.put(String.format("%2d%s", promiseOf(m.getName()), m.getName()), m);
             }
@@ -88,7 +88,7 @@ final class Story {
     }
 
     private static int promiseOf(String name) {
-        return Integer.parseInt(name.replaceAll("promise([0-9]+).*", "$1"));
+        return name.startsWith("run") ? 0 : Integer.parseInt(name.replaceAll("promise([0-9]+).*", "$1"));
     }
 
     /** A run on a new object. */
