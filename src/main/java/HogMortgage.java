@@ -906,13 +906,12 @@ public final class HogMortgage {
 
         /** The next way, by the SAUCER of HOUSE 0, then 1, rising; false: that was the last one. */
         private boolean nextWay(int houses) {
-            int behind = 0;
             for (int h = houses - 1; h > 0; h--) {
-                behind += way[h];
+                int spoons = way[h];
                 way[h] = 0;
-                if (behind > 0) {
+                if (spoons > 0) {
                     way[h - 1]++;
-                    way[houses - 1] = behind - 1;
+                    way[houses - 1] = spoons - 1;
                     return true;
                 }
             }

@@ -15,7 +15,6 @@ import java.util.function.BiConsumer;
 import java.util.regex.Matcher;
 import java.util.regex.Pattern;
 import java.util.stream.Stream;
-import javax.tools.ToolProvider;
 
 /**
  * Every example of README.md answers as it says there. The blocks of Java in it are compiled as they stand: one that begins
@@ -32,7 +31,7 @@ public final class ReadmeTest {
     private final Set<String> answersSeen = new HashSet<>();
     private int examples = 0;
 
-    public static void main(String[] args) throws IOException, ReflectiveOperationException {
+    public static void main(String[] args) throws IOException, InterruptedException, ReflectiveOperationException {
         List<String> lines = Files.readAllLines(Path.of("README.md"));
         ReadmeTest test = new ReadmeTest();
         test.take(lines);
@@ -87,7 +86,7 @@ public final class ReadmeTest {
         }
     }
 
-    private void run() throws IOException, ReflectiveOperationException {
+    private void run() throws IOException, InterruptedException, ReflectiveOperationException {
         source.append("public static void run(java.util.function.BiConsumer<Integer, Integer> told) {\n");
         for (int k = 0; k < examples; k++) {
             source.append("example").append(k).append("(told);\n");
@@ -97,8 +96,9 @@ public final class ReadmeTest {
         try {
             Path file = folder.resolve("ReadmeExamples.java");
             Files.writeString(file, source);
-            int failed = ToolProvider.getSystemJavaCompiler().run(null, null, null,
-                    "-cp", System.getProperty("java.class.path"), "-d", folder.toString(), file.toString());
+            ProcessBuilder javac = new ProcessBuilder("javac", "-encoding", "UTF-8", "-cp",
+                    System.getProperty("java.class.path"), "-d", folder.toString(), file.toString());
+            int failed = javac.inheritIO().start().waitFor();
             check.due("the examples compile", failed, 0);
             if (failed == 0) {
                 runIn(folder);
